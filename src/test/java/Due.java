@@ -1,3 +1,5 @@
+import java.util.List;
+
 /** Compares answers with those that are due, and ends a test. */
 final class Due {
     private int asked;
@@ -9,6 +11,18 @@ final class Due {
             wrong++;
             System.out.println(call + " answered " + got + ", due is " + want);
         }
+    }
+
+    void same(String call, List<Integer> got, List<Integer> want) {
+        asked++;
+        if (!got.equals(want)) {
+            wrong++;
+            System.out.println(call + " differs " + Told.firstDifference(got, want));
+        }
+    }
+
+    int wrong() {
+        return wrong;
     }
 
     void end() {
