@@ -844,9 +844,9 @@ public final class CaughtPellets {
         int nearestToMean() {
             int mean = mean();
             int nearest = -1;
-            int least = Integer.MAX_VALUE;
+            int least = 0;
             for (int i = 0; i < size; i++) {
-                if (isOfSeries(i) && difference(told[i], mean) < least) {
+                if (isOfSeries(i) && (nearest < 0 || difference(told[i], mean) < least)) {
                     least = difference(told[i], mean);
                     nearest = i;
                 }

@@ -129,6 +129,18 @@ public final class BlockTest {
         due.is("the last cord is the longest, 6", x.count(6), 1);
         due.is("cord(3, 2011)", x.cord(3, 2011), 2005);
         due.is("the last cord is the longest, 7", x.count(6), 0);
+        x.cord(3, 2004);
+        for (int cord = 0; cord < 4; cord++) {
+            x.cord(cord, 1998);
+            due.is("6 shorter is cord " + cord, x.count(6), 1);
+            x.cord(cord, 1997);
+            due.is("7 shorter is cord " + cord, x.count(6), 0);
+            x.cord(cord, 2010);
+            due.is("6 longer is cord " + cord, x.count(6), 1);
+            x.cord(cord, 2011);
+            due.is("7 longer is cord " + cord, x.count(6), 0);
+            x.cord(cord, 2004);
+        }
         x.set(0, 50);
         x.cord(0, 2054);
         due.is("50 between the cords", x.count(6), 1);

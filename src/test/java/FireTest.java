@@ -54,6 +54,8 @@ public final class FireTest {
         int[][] shots = {
             {10, 900, 255, 892}, {2000, 50, 28880, 49}, {100, 100, 316, 99}, {500, 400, 124324, 399},
             {80, 300, 1823, 299}, {80, 410, 3411, 409}, {2000, 900, 200000, 131}, {1000, 300, 200000, 256},
+            // The square is met just: 14 of 196, 28 of 784.
+            {10, 70, 1, 56}, {10, 120, 4, 112}, {20, 60, 4, 56},
         };
         for (int[] shot : shots) {
             CaughtPellets x = new CaughtPellets();
@@ -149,6 +151,10 @@ public final class FireTest {
         due.is("it is at rest", x.count(4), 0);
         due.is("no half swing", x.count(10), 0);
         due.is("one does not count", x.count(8), 1);
+        x.forget();
+        x.load(80, 400);
+        x.fire(1, 0);
+        due.is("the first one does not count", x.count(8), 1);
         x.cord(0, 2005);
         due.is("it is straight", x.would(80, 400, 2), 0);
         x.set(0, 4);

@@ -9,6 +9,7 @@ public final class HistoryTest {
         Due due = new Due();
         fourStatesAreKept(due);
         everyActIsTakenBack(due);
+        whatIsWrittenOverComesBack(due);
         callsThatAreNoActs(due);
         snapshotIsKeptAndRestored(due);
         snapshotIsNoState(due);
@@ -88,6 +89,33 @@ public final class HistoryTest {
             due.same("the state behind undo() of act " + number, Told.state(x), before);
             due.is("the same act " + number + " again", act(x, number) >= 0 ? 1 : 0, 1);
         }
+    }
+
+    private static void whatIsWrittenOverComesBack(Due due) {
+        CaughtPellets x = prepared();
+        List<Integer> before = Told.state(x);
+        x.keep();
+        x.forget();
+        Told.write(x, "50@600;60@700");
+        x.unload(2000);
+        x.loadAll();
+        x.fire(2, 0);
+        due.is("other shots have their numbers", x.shot(1, 2), 1);
+        for (int left = 3; left >= 0; left--) {
+            due.is("undo()", x.undo(), left);
+        }
+        due.same("behind undo()", Told.state(x), before);
+        x.forget();
+        x.unload(2000);
+        x.loadAll();
+        x.fire(2, 0);
+        due.is("restore()", x.restore(), 3);
+        due.same("behind restore()", Told.state(x), before);
+        x.dropStandard(0);
+        x.keepStandard(500, 7);
+        x.undo();
+        due.is("undo()", x.undo(), 2);
+        due.same("behind undo()", Told.state(x), before);
     }
 
     private static void callsThatAreNoActs(Due due) {

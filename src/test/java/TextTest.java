@@ -20,6 +20,7 @@ public final class TextTest {
         faultsOfTimes(due);
         faultsBehindAShot(due);
         otherCharacters(due);
+        formerTextIsGone(due);
         due.end();
     }
 
@@ -218,6 +219,19 @@ public final class TextTest {
         fault(due, "5@50; 6@60", 5);
         fault(due, "5@50,6@60", 4);
         fault(due, "5@50;6@60;", 10);
+    }
+
+    /** What stood behind a shorter text is not read. */
+    private static void formerTextIsGone(Due due) {
+        String former = "5.5@50x2;6@60";
+        int[] faults = {0, 1, 2, 3, 4, 5, -1, 7, -1, 9, 10, 11, 12};
+        for (int length = 0; length < faults.length; length++) {
+            CaughtPellets x = new CaughtPellets();
+            Told.write(x, former);
+            Told.write(x, former.substring(0, length));
+            int answer = length == 6 ? 1 : length == 8 ? 2 : -100 - faults[length];
+            due.is("the first " + length + " of " + former, x.loadAll(), answer);
+        }
     }
 
     private static void otherCharacters(Due due) {
