@@ -2,13 +2,22 @@ import java.util.ArrayList;
 import java.util.Arrays;
 import java.util.List;
 
-/** What an object tells: for tests of calls that change nothing, or that bring something back. */
+/**
+ * What an object tells: for tests of calls that change nothing, or that bring something back.
+ * An object is promised for 512 calls, so it is asked for no more than it can have.
+ */
 final class Told {
     private Told() {
     }
 
     /** All that is told of the state: nothing of the text and the history. */
     static List<Integer> state(CaughtPellets x) {
+        List<Integer> told = stateWithoutShots(x);
+        told.addAll(shots(x, 0, 59));
+        return told;
+    }
+
+    static List<Integer> stateWithoutShots(CaughtPellets x) {
         List<Integer> told = new ArrayList<>();
         for (int what = 0; what <= 18; what++) {
             told.add(x.count(what));
@@ -19,17 +28,12 @@ final class Told {
         for (int what = 0; what <= 6; what++) {
             told.add(x.series(what));
         }
-        for (int standard = 0; standard < 5; standard++) {
+        for (int standard = 0; standard < x.count(13); standard++) {
             for (int what = 0; what <= 3; what++) {
                 told.add(x.standard(standard, what));
             }
         }
-        for (int shot = 0; shot < 60; shot++) {
-            for (int what = 0; what <= 7; what++) {
-                told.add(x.shot(shot, what));
-            }
-        }
-        for (int place = 0; place < 20; place++) {
+        for (int place = 0; place < x.count(9); place++) {
             told.add(x.waiting(place, false));
             told.add(x.waiting(place, true));
         }
@@ -37,6 +41,18 @@ final class Told {
             told.add(x.would(75, 333, what));
         }
         told.add(x.untilRest());
+        return told;
+    }
+
+    /** The shots from one number to another one, as far as there are such. */
+    static List<Integer> shots(CaughtPellets x, int first, int last) {
+        List<Integer> told = new ArrayList<>();
+        int end = Math.min(last + 1, x.count(7));
+        for (int shot = first; shot < end; shot++) {
+            for (int what = 0; what <= 7; what++) {
+                told.add(x.shot(shot, what));
+            }
+        }
         return told;
     }
 
