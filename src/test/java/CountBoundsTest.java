@@ -142,5 +142,8 @@ public final class CountBoundsTest {
         due.is("a struck one is not among them", x.count(8), 1);
         x.forget();
         due.is("none is kept", x.count(8), 0);
+        x.load(80, 400);
+        x.fire(1, 0);
+        due.is("the first one", x.count(8), 1);
     }
 }

@@ -15,6 +15,7 @@ public final class HistoryBoundsTest {
         test.atMostFourStates();
         test.oldestIsDroppedByEachAct();
         test.statesGoRoundAndRound();
+        test.statesKeepWhatIsWrittenOver();
         test.undoDownToNone();
         test.eachActRecordsOneState();
         test.noErrorRecordsAState();
@@ -72,7 +73,7 @@ public final class HistoryBoundsTest {
 
     private static int act(CaughtPellets x, int number) {
         switch (number) {
-            case 0: return x.block(4000);
+            case 0: return x.block(9000);
             case 1: return x.digOut();
             case 2: return x.cord(3, 2005);
             case 3: return x.set(2, 500);
@@ -143,6 +144,42 @@ public final class HistoryBoundsTest {
                 due.is("the limit", x.count(14), limit == 0 ? 30 : 100 + limit);
             }
         }
+    }
+
+    /** The rooms of shots, standards and the row are used again by later acts: the states keep their own. */
+    private void statesKeepWhatIsWrittenOver() {
+        due.of("undo() removes and restores the latest one");
+        CaughtPellets x = readyForActs();
+        x.load(90, 410);
+        x.strike(1, true);
+        x.keep();
+        List<Integer> before = Told.state(x);
+        x.forget();
+        Told.write(x, "70@700;7.1@701");
+        x.unload(2000);
+        x.loadAll();
+        x.fire(2, 0);
+        due.is("a new first shot", x.shot(0, 0), 700);
+        due.is("it is not struck", x.shot(1, 5), 0);
+        for (int left = 3; left >= 0; left--) {
+            due.is("undo()", x.undo(), left);
+        }
+        due.same("the state behind undo()", Told.state(x), before);
+        x.unload(2000);
+        x.dropStandard(0);
+        x.keepStandard(900, 100);
+        x.load(10, 50);
+        for (int left = 3; left >= 0; left--) {
+            due.is("undo()", x.undo(), left);
+        }
+        due.same("the state behind undo()", Told.state(x), before);
+        due.of("Restores the state of the snapshot, which stays.");
+        x.forget();
+        x.unload(2000);
+        x.loadAll();
+        x.fire(2, 0);
+        due.is("restore()", x.restore(), 4);
+        due.same("the state behind restore()", Told.state(x), before);
     }
 
     private void undoDownToNone() {

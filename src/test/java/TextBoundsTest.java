@@ -34,6 +34,7 @@ public final class TextBoundsTest {
         test.faultAtEveryPlaceOfALongText();
         test.atMostSixtyCharacters();
         test.textIsEmptied();
+        test.formerTextIsGone();
         test.textStays();
         test.oneOrMoreShots();
         test.allOrNoneByTheRoomThatIsLeft();
@@ -237,6 +238,21 @@ public final class TextBoundsTest {
         due.is("there is room again", x.type('5'), 1);
         due.is("nothing of the former one is left", x.loadAll(), -101);
         due.is("no act", x.count(19), 0);
+    }
+
+    private void formerTextIsGone() {
+        due.of("Empties the text.");
+        String[][] texts = {
+            {"55555", "5"}, {"5@500", "5@"}, {"5@500", "5@5"}, {"5@500", "5@50"}, {"5.5@50", "5."},
+            {"5@50;55", "5@50;"}, {"5@50x5", "5@50x"}, {"5@50x5", "5@50"}, {"5@50;6@60", "5@50"},
+        };
+        int[] answers = {-101, -102, -103, 1, -102, -105, -105, 1, 1};
+        for (int i = 0; i < texts.length; i++) {
+            CaughtPellets x = new CaughtPellets();
+            Told.write(x, texts[i][0]);
+            Told.write(x, texts[i][1]);
+            due.is(texts[i][1] + " behind " + texts[i][0], x.loadAll(), answers[i]);
+        }
     }
 
     private void textStays() {
