@@ -9,6 +9,7 @@ public final class BlockBoundsTest {
         BlockBoundsTest test = new BlockBoundsTest();
         test.everythingIsEmptyAtFirst();
         test.wholeMassOfEmptyAndFullBlocks();
+        test.whatItHoldsIsToldInTenths();
         test.lengthThatCountsIsRoundedDown();
         test.straightUpToTheSetting();
         test.blocksOfNoneAndOfManyPellets();
@@ -29,7 +30,7 @@ public final class BlockBoundsTest {
         due.is("untilRest()", x.untilRest(), -5);
         due.of("The block has a mass (1000 to 9000 grams; 4000 at first)");
         due.is("its mass", x.count(0), 4000);
-        due.of("holds so many grams of pellets (0 at first)");
+        due.of("and holds so many grams of pellets (0 at first)");
         due.is("what it holds", x.count(1), 0);
         due.is("its pellets", x.count(2), 0);
         due.of("each with a length (500 to 3000 millimetres; 2000 at first)");
@@ -74,6 +75,18 @@ public final class BlockBoundsTest {
         due.is("the block ahead of the last one", x.shot(40, 7), 168000);
         due.is("digOut()", x.digOut(), 80000);
         due.is("the heaviest, dug out", x.count(3), 90000);
+    }
+
+    private void whatItHoldsIsToldInTenths() {
+        due.of("and holds so many grams of pellets (0 at first), a tenth of a gram as the unit");
+        CaughtPellets x = new CaughtPellets();
+        Scenes.loadText(x, "7.5@420;0.9@420");
+        due.is("a fault loads nothing", x.count(9), 0);
+        Scenes.loadText(x, "7.5@420;1.1@420");
+        due.is("fire(2, 500)", x.fire(2, 500), 2);
+        due.is("7.5 and 1.1 grams", x.count(1), 86);
+        due.is("the whole mass", x.count(3), 40086);
+        due.is("digOut()", x.digOut(), 86);
     }
 
     private void lengthThatCountsIsRoundedDown() {

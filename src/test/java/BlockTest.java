@@ -28,6 +28,7 @@ public final class BlockTest {
     }
 
     private static void blockIsChanged(Due due) {
+        due.of("`int block(int mass)`: Changes the block for another one, which holds nothing. This is an act.");
         CaughtPellets x = new CaughtPellets();
         Told.fireEach(x, 400, 410);
         due.is("block(9000)", x.block(9000), 2);
@@ -37,6 +38,7 @@ public final class BlockTest {
         due.is("its whole mass", x.count(3), 90000);
         due.is("dug out with the former one", x.count(12), 160);
         due.is("caught so far", x.count(11), 160);
+        due.of("Returns how many pellets the former one held; BAD_VALUE; NOT_POSSIBLE if the block swings.");
         due.is("block(1000)", x.block(1000), 0);
         due.is("the same block again", x.block(1000), 0);
         due.is("its mass", x.count(0), 1000);
@@ -51,6 +53,7 @@ public final class BlockTest {
     }
 
     private static void blockIsRefused(Due due) {
+        due.of("- `mass`: 1000 to 9000");
         CaughtPellets x = new CaughtPellets();
         due.is("block(999)", x.block(999), -2);
         due.is("block(9001)", x.block(9001), -2);
@@ -58,6 +61,7 @@ public final class BlockTest {
         due.is("block(MAX)", x.block(Integer.MAX_VALUE), -2);
         due.same("nothing is changed", Told.everything(x), Told.everything(new CaughtPellets()));
         CaughtPellets y = swinging();
+        due.of("NOT_POSSIBLE if the block swings.");
         due.is("block(4000) while it swings", y.block(4000), -4);
         due.is("block(999) while it swings", y.block(999), -2);
         due.same("nothing is changed", Told.everything(y), Told.everything(swinging()));
@@ -66,6 +70,8 @@ public final class BlockTest {
     }
 
     private static void pelletsAreDugOut(Due due) {
+        due.of("Returns how many tenths of grams it held; NOT_POSSIBLE if the block swings; NONE if it holds "
+            + "no pellet.");
         CaughtPellets x = new CaughtPellets();
         due.is("digOut() of nothing", x.digOut(), -5);
         due.is("no act", x.count(19), 0);
@@ -76,6 +82,7 @@ public final class BlockTest {
         due.is("nothing is dug out", x.count(1), 580);
         x.stop();
         due.is("digOut()", x.digOut(), 580);
+        due.of("`int digOut()`: Digs all pellets out of the block. This is an act.");
         due.is("what it holds", x.count(1), 0);
         due.is("its pellets", x.count(2), 0);
         due.is("its whole mass", x.count(3), 40000);
@@ -95,9 +102,12 @@ public final class BlockTest {
     }
 
     private static void cordsAreSet(Due due) {
+        due.of("Returns the length that counts then; UNKNOWN; BAD_VALUE; NOT_POSSIBLE if the block swings; "
+            + "NONE if it is so already.");
         CaughtPellets x = new CaughtPellets();
         due.is("cord(0, 500)", x.cord(0, 500), 1625);
         due.is("cord(3, 3000)", x.cord(3, 3000), 1875);
+        due.of("`int cord(int cord, int length)`: Sets the length of a cord. This is an act.");
         due.is("lengthOf(0)", x.lengthOf(0), 500);
         due.is("lengthOf(1)", x.lengthOf(1), 2000);
         due.is("lengthOf(2)", x.lengthOf(2), 2000);
@@ -109,11 +119,14 @@ public final class BlockTest {
     }
 
     private static void lengthThatCountsIsRoundedDown(Due due) {
+        due.of("The length that counts L is the mean of the four, rounded down. The block hangs straight if "
+            + "the longest and the shortest cord differ by at most the setting 0.");
         CaughtPellets x = new CaughtPellets();
         due.is("cord(0, 2003)", x.cord(0, 2003), 2000);
         due.is("cord(0, 2004)", x.cord(0, 2004), 2001);
         due.is("it hangs straight", x.count(6), 1);
         due.is("cord(1, 1999)", x.cord(1, 1999), 2000);
+        due.of("The settings are (in parentheses: range; first value): 0 how much cords may differ (0 to 50; 5)");
         due.is("5 between the cords", x.count(6), 1);
         due.is("cord(1, 1998)", x.cord(1, 1998), 2000);
         due.is("6 between the cords", x.count(6), 0);
@@ -152,16 +165,19 @@ public final class BlockTest {
     }
 
     private static void cordsAreRefused(Due due) {
+        due.of("- `cord`: 0 to 3");
         CaughtPellets x = new CaughtPellets();
         due.is("cord(-1, 2001)", x.cord(-1, 2001), -1);
         due.is("cord(4, 2001)", x.cord(4, 2001), -1);
         due.is("cord(MIN, 0)", x.cord(Integer.MIN_VALUE, 0), -1);
         due.is("cord(4, 499)", x.cord(4, 499), -1);
+        due.of("- `length`: 500 to 3000");
         due.is("cord(3, 499)", x.cord(3, 499), -2);
         due.is("cord(3, 3001)", x.cord(3, 3001), -2);
         due.is("cord(0, 2000)", x.cord(0, 2000), -5);
         due.same("nothing is changed", Told.everything(x), Told.everything(new CaughtPellets()));
         CaughtPellets y = swinging();
+        due.of("UNKNOWN; BAD_VALUE; NOT_POSSIBLE if the block swings; NONE if it is so already.");
         due.is("cord(4, 499), it swings", y.cord(4, 499), -1);
         due.is("cord(0, 499), it swings", y.cord(0, 499), -2);
         due.is("cord(0, 2000), it swings", y.cord(0, 2000), -4);
@@ -170,6 +186,7 @@ public final class BlockTest {
     }
 
     private static void settingsAreSet(Due due) {
+        due.of("`int set(int which, int value)`: Sets a setting. This is an act.");
         CaughtPellets x = new CaughtPellets();
         int[] first = {5, 20, 10, 10};
         int[] least = {0, 0, 1, 1};
@@ -191,12 +208,14 @@ public final class BlockTest {
     }
 
     private static void settingsAreRefused(Due due) {
+        due.of("- `which`: 0 to 3");
         CaughtPellets x = new CaughtPellets();
         due.is("set(-1, 5)", x.set(-1, 5), -2);
         due.is("set(4, 5)", x.set(4, 5), -2);
         due.is("set(MAX, 5)", x.set(Integer.MAX_VALUE, 5), -2);
         int[] least = {0, 0, 1, 1};
         int[] most = {50, 500, 500, 40};
+        due.of("- `value`: in its range");
         for (int which = 0; which < 4; which++) {
             due.is("too little for " + which, x.set(which, least[which] - 1), -2);
             due.is("too much for " + which, x.set(which, most[which] + 1), -2);
@@ -205,15 +224,18 @@ public final class BlockTest {
     }
 
     private static void blockSwings(Due due) {
+        due.of("Returns the height then; BAD_VALUE; NONE if it is at rest.");
         CaughtPellets x = new CaughtPellets();
         due.is("swing(1) at rest", x.swing(1), -5);
         due.is("swing(0) at rest", x.swing(0), -2);
         due.is("swing(501) at rest", x.swing(501), -2);
         x = swinging();
+        due.of("- `halves`: 1 to 500: so many at most");
         due.is("swing(0)", x.swing(0), -2);
         due.is("swing(-1)", x.swing(-1), -2);
         due.is("swing(501)", x.swing(501), -2);
         due.same("nothing is changed", Told.everything(x), Told.everything(swinging()));
+        due.of("`int swing(int halves)`: Lets the block do half swings, until it is at rest. This is an act.");
         due.is("swing(1)", x.swing(1), 3181);
         due.is("swing(2)", x.swing(2), 3054);
         due.is("half swings so far", x.count(10), 3);
@@ -227,6 +249,8 @@ public final class BlockTest {
     }
 
     private static void rubbingAndLeastHeight(Due due) {
+        due.of("1 the rubbing, in thousandths of the height lost by each half swing (0 to 500; 20), 2 the "
+            + "least height for which a swing goes on, in hundredths of millimetres (1 to 500; 10)");
         CaughtPellets x = swinging();
         x.set(1, 0);
         due.is("without rubbing it is 1 less", x.swing(1), 3245);
@@ -238,6 +262,9 @@ public final class BlockTest {
         due.is("just the least height", x.swing(1), 343);
         due.is("less than it", x.swing(1), 0);
         due.is("half swings so far", x.count(10), 505);
+        due.of("A half swing: the height becomes less by height * rubbing / 1000, rounded up, but at least by "
+            + "1 if the height is above 0; if it is less than the setting 2 then, the block is at rest, with "
+            + "the height 0.");
         CaughtPellets y = swinging();
         y.set(1, 1);
         due.is("4 of 3246 are lost", y.swing(1), 3242);
@@ -249,11 +276,13 @@ public final class BlockTest {
     }
 
     private static void blockIsStopped(Due due) {
+        due.of("`int stop()`: Stops the block. This is an act.");
         CaughtPellets x = swinging();
         due.is("stop()", x.stop(), 3246);
         due.is("its height", x.count(4), 0);
         due.is("no half swing", x.count(10), 0);
         due.is("an act", x.count(19), 3);
+        due.of("Returns the height that it had; NONE if it is at rest.");
         due.is("stop() again", x.stop(), -5);
         due.is("no act", x.count(19), 3);
         due.is("undo()", x.undo(), 2);

@@ -13,6 +13,13 @@ public final class CountTest {
     }
 
     private static void everyCountIsTold(Due due) {
+        due.of("`int count(int what)`: - `what`: 0 for the mass of the block, 1 for what it holds, in tenths, "
+            + "2 for the pellets that it holds, 3 for its whole mass in tenths, 4 for its height, 5 for the "
+            + "length that counts, 6 for whether it hangs straight (1, otherwise 0), 7 for shots that were "
+            + "fired and are kept, 8 for those of them that do not count, 9 for shots that wait, 10 for half "
+            + "swings so far, 11 for all tenths of grams caught so far, 12 for all tenths of grams dug out so "
+            + "far (with those in blocks that were changed), 13 for standards, 14 for the limit, 15 to 18 for "
+            + "the settings 0 to 3, 19 for the states in the history, 20 for the length of the text");
         CaughtPellets x = new CaughtPellets();
         x.block(5000);
         x.cord(1, 2004);
@@ -43,6 +50,7 @@ public final class CountTest {
     }
 
     private static void countsGoOnBehindForgetting(Due due) {
+        due.of("10 for half swings so far, 11 for all tenths of grams caught so far");
         CaughtPellets x = new CaughtPellets();
         x.load(80, 400);
         x.fire(1, 2);
@@ -60,6 +68,7 @@ public final class CountTest {
     }
 
     private static void countIsRefused(Due due) {
+        due.of("Returns the number; BAD_VALUE.");
         CaughtPellets x = new CaughtPellets();
         due.is("count(-1)", x.count(-1), -2);
         due.is("count(21)", x.count(21), -2);
@@ -68,6 +77,7 @@ public final class CountTest {
     }
 
     private static void lengthsAreTold(Due due) {
+        due.of("Returns its length; UNKNOWN.");
         CaughtPellets x = new CaughtPellets();
         for (int cord = 0; cord < 4; cord++) {
             x.cord(cord, 500 + cord);
@@ -75,6 +85,7 @@ public final class CountTest {
         for (int cord = 0; cord < 4; cord++) {
             due.is("lengthOf(" + cord + ")", x.lengthOf(cord), 500 + cord);
         }
+        due.of("`int lengthOf(int cord)`: - `cord`: 0 to 3");
         due.is("lengthOf(4)", x.lengthOf(4), -1);
         due.is("lengthOf(-1)", x.lengthOf(-1), -1);
         due.is("lengthOf(MAX)", x.lengthOf(Integer.MAX_VALUE), -1);

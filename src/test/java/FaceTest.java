@@ -38,10 +38,15 @@ public final class FaceTest {
         int modifiers = CaughtPellets.class.getModifiers();
         due.is("the class is public and final",
             modifiers & (Modifier.PUBLIC | Modifier.FINAL), Modifier.PUBLIC | Modifier.FINAL);
+        due.of("The constants: `UNKNOWN = -1`: There is no such cord, shot or standard.");
         due.is("UNKNOWN", CaughtPellets.UNKNOWN, -1);
+        due.of("`BAD_VALUE = -2`: Another argument is out of range.");
         due.is("BAD_VALUE", CaughtPellets.BAD_VALUE, -2);
+        due.of("`FULL = -3`: There is no more room.");
         due.is("FULL", CaughtPellets.FULL, -3);
+        due.of("`NOT_POSSIBLE = -4`: This is not possible.");
         due.is("NOT_POSSIBLE", CaughtPellets.NOT_POSSIBLE, -4);
+        due.of("`NONE = -5`: There is no such thing; not an error.");
         due.is("NONE", CaughtPellets.NONE, -5);
         due.end();
     }

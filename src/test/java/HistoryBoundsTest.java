@@ -183,7 +183,7 @@ public final class HistoryBoundsTest {
     }
 
     private void undoDownToNone() {
-        due.of("the number of states that are left; NONE if the history is empty.");
+        due.of("Returns the number of states that are left; NONE if the history is empty.");
         CaughtPellets x = new CaughtPellets();
         due.is("of a new object", x.undo(), -5);
         x.setLimit(40);
@@ -359,7 +359,7 @@ public final class HistoryBoundsTest {
     }
 
     private void keepCountsShots() {
-        due.of("how many shots were fired.");
+        due.of("Returns how many shots were fired.");
         CaughtPellets x = new CaughtPellets();
         due.is("none", x.keep(), 0);
         x.load(80, 400);

@@ -18,6 +18,7 @@ public final class HistoryTest {
     }
 
     private static void fourStatesAreKept(Due due) {
+        due.of("`int undo()`: Removes and restores the latest state of the history.");
         CaughtPellets x = new CaughtPellets();
         due.is("undo() of none", x.undo(), -5);
         for (int limit = 1; limit <= 6; limit++) {
@@ -76,6 +77,8 @@ public final class HistoryTest {
     }
 
     private static void everyActIsTakenBack(Due due) {
+        due.of("Each call of a method that is described as an act, and returns no error and not NONE, records "
+            + "the state that was before it.");
         for (int number = 0; number <= 16; number++) {
             CaughtPellets x = prepared();
             if (number >= 15) {
@@ -92,6 +95,7 @@ public final class HistoryTest {
     }
 
     private static void whatIsWrittenOverComesBack(Due due) {
+        due.of("undo() removes and restores the latest one.");
         CaughtPellets x = prepared();
         List<Integer> before = Told.state(x);
         x.keep();
@@ -119,6 +123,7 @@ public final class HistoryTest {
     }
 
     private static void callsThatAreNoActs(Due due) {
+        due.of("Each call of a method that is described as an act");
         CaughtPellets x = new CaughtPellets();
         x.setLimit(40);
         Told.everything(x);
@@ -133,9 +138,11 @@ public final class HistoryTest {
     }
 
     private static void snapshotIsKeptAndRestored(Due due) {
+        due.of("Returns how many shots were fired, as they are then; NONE if there is no snapshot.");
         CaughtPellets x = new CaughtPellets();
         due.is("restore() of none", x.restore(), -5);
         due.is("no act", x.count(19), 0);
+        due.of("`int keep()`: Takes a snapshot of the state, in place of the one that was.");
         due.is("keep()", x.keep(), 0);
         Told.fireEach(x, 400, 410);
         due.is("restore()", x.restore(), 0);
@@ -151,6 +158,7 @@ public final class HistoryTest {
         due.is("not struck", x.shot(0, 5), 0);
         due.is("undo()", x.undo(), 3);
         due.same("as it was", Told.state(x), before);
+        due.of("`int restore()`: Restores the state of the snapshot, which stays. This is an act.");
         due.is("the snapshot stays", x.restore(), 2);
         x.strike(0, true);
         due.is("acts do not change the snapshot", x.restore(), 2);
@@ -158,6 +166,7 @@ public final class HistoryTest {
     }
 
     private static void snapshotIsNoState(Due due) {
+        due.of("A state is everything but the text, the history and the snapshot.");
         CaughtPellets x = new CaughtPellets();
         x.setLimit(40);
         x.keep();
@@ -170,6 +179,7 @@ public final class HistoryTest {
     }
 
     private static void restoreIsAnAct(Due due) {
+        due.of("Restores the state of the snapshot, which stays. This is an act.");
         CaughtPellets x = new CaughtPellets();
         x.keep();
         x.setLimit(40);

@@ -9,6 +9,7 @@ public final class NewObjectTest {
 
     public static void main(String[] args) {
         Due due = new Due();
+        due.of("`CaughtPellets()`: Creates a block at rest.");
         CaughtPellets x = new CaughtPellets();
         for (int what = 0; what < COUNTS.length; what++) {
             due.is("count(" + what + ")", x.count(what), COUNTS[what]);

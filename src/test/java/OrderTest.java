@@ -20,6 +20,8 @@ public final class OrderTest {
 
     public static void main(String[] args) {
         OrderTest test = new OrderTest();
+        test.firstOfAllErrors();
+        test.errorsAheadOfNone();
         test.errorsOfTheBlock();
         test.errorsOfCord();
         test.errorsOfSetAndSwing();
@@ -34,6 +36,29 @@ public final class OrderTest {
 
     private void refused(String call, Supplier<CaughtPellets> making, ToIntFunction<CaughtPellets> asked, int want) {
         Unchanged.by(due, call, making, asked, want);
+    }
+
+    private void firstOfAllErrors() {
+        due.of("Where several errors can apply, the order of the @return line is the order of the checks.");
+        refused("block", Scenes::richSwinging, x -> x.block(999), BAD_VALUE);
+        refused("cord", Scenes::richSwinging, x -> x.cord(4, 499), UNKNOWN);
+        refused("load", Scenes::fullRow, x -> x.load(9, 49), BAD_VALUE);
+        refused("loadAll", () -> withText(Scenes.fullRow(), "5@50x9;5@50x"), x -> x.loadAll(), -112);
+        refused("fire", Scenes::fullOfShots, x -> x.fire(21, 501), BAD_VALUE);
+        refused("keepStandard", Scenes::fullOfStandards, x -> x.keepStandard(49, 101), BAD_VALUE);
+        refused("shot", Scenes::fullOfShots, x -> x.shot(60, 8), UNKNOWN);
+        refused("standard", Scenes::fullOfStandards, x -> x.standard(5, 4), UNKNOWN);
+    }
+
+    private void errorsAheadOfNone() {
+        due.of("NONE is no error; it is returned only if no error applies.");
+        refused("cord, it swings and is so already", Scenes::richSwinging, x -> x.cord(0, 2000), NOT_POSSIBLE);
+        refused("swing at rest", Scenes::fresh, x -> x.swing(0), BAD_VALUE);
+        refused("unload, none waits", Scenes::fresh, x -> x.unload(9), BAD_VALUE);
+        refused("fire, none waits", Scenes::fresh, x -> x.fire(0, 0), BAD_VALUE);
+        refused("strike, it does not count and is not struck", Scenes::rich, x -> x.strike(4, false), NOT_POSSIBLE);
+        refused("waiting, none waits", Scenes::fresh, x -> x.waiting(-1, true), BAD_VALUE);
+        refused("series without shots", Scenes::fresh, x -> x.series(7), BAD_VALUE);
     }
 
     private void errorsOfTheBlock() {
@@ -88,7 +113,7 @@ public final class OrderTest {
     }
 
     private void errorsOfSetAndSwing() {
-        due.of("the previous one; BAD_VALUE (which or value); NONE if it is so already.");
+        due.of("Returns the previous one; BAD_VALUE (which or value); NONE if it is so already.");
         int[] now = {5, 30, 10, 10};
         for (int i = 0; i < 4; i++) {
             int which = i;
@@ -219,7 +244,7 @@ public final class OrderTest {
         due.of("how many they were; NONE if there is none.");
         refused("forget() of none", Scenes::fresh, x -> x.forget(), NONE);
         refused("forget() again", OrderTest::forgotten, x -> x.forget(), NONE);
-        due.of("the number of states that are left; NONE if the history is empty.");
+        due.of("Returns the number of states that are left; NONE if the history is empty.");
         refused("undo() of none", Scenes::fresh, x -> x.undo(), NONE);
         refused("undo() behind all", OrderTest::withoutHistory, x -> x.undo(), NONE);
         due.of("NONE if there is no snapshot.");

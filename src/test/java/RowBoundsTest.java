@@ -277,7 +277,8 @@ public final class RowBoundsTest {
     }
 
     private void shotsBehindTheFirstSixty() {
-        due.of("each keeps its mass, its speed, the reason, its first height and its told speed (0 both if it does not count)");
+        due.of("each keeps its mass, its speed, the reason, its first height and its told speed "
+            + "(0 both if it does not count), and may be struck.");
         CaughtPellets x = new CaughtPellets();
         for (int round = 0; round < 3; round++) {
             for (int i = 0; i < 20; i++) {
@@ -292,7 +293,11 @@ public final class RowBoundsTest {
             due.is("reason of " + shot, x.shot(shot, 2), shot == 0 ? 0 : 1);
             due.is("height of " + shot, x.shot(shot, 3), shot == 0 ? 1264 : 0);
             due.is("told of " + shot, x.shot(shot, 4), shot == 0 ? 199 : 0);
+            due.is("is " + shot + " struck", x.shot(shot, 5), 0);
         }
+        due.is("the one that counts may be struck", x.strike(0, true), 0);
+        due.is("it is struck", x.shot(0, 5), 1);
+        due.is("the last one is not", x.strike(59, true), -4);
     }
 
     private void placesMoveUp() {

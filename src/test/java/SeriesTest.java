@@ -26,6 +26,10 @@ public final class SeriesTest {
     }
 
     private static void seriesIsTold(Due due) {
+        due.of("`int series(int what)`: - `what`: 0 for its shots, 1 for its mean (NONE without shots), 2 for "
+            + "its spread (0 without shots), 3 for bad shots, 4 for its first shot (NONE without one), 5 for "
+            + "the shot that is nearest to the mean (of several the first one; NONE without shots), 6 for "
+            + "standards that it meets (a set, as bits)");
         CaughtPellets x = fired(400, 410, 300);
         due.is("its shots", x.series(0), 3);
         due.is("its mean", x.series(1), 369);
@@ -34,20 +38,24 @@ public final class SeriesTest {
         due.is("its first shot", x.series(4), 0);
         due.is("the nearest", x.series(5), 0);
         due.is("standards that it meets", x.series(6), 0);
+        due.of("Returns the number; BAD_VALUE.");
         due.is("series(-1)", x.series(-1), -2);
         due.is("series(7)", x.series(7), -2);
         due.is("series(MAX)", x.series(Integer.MAX_VALUE), -2);
+        due.of("5 for the shot that is nearest to the mean (of several the first one; NONE without shots)");
         due.is("the nearest is behind others", fired(300, 400, 500).series(5), 1);
         due.is("of several the first one", fired(300, 420, 380).series(5), 2);
         due.is("of several the first one", fired(400, 400, 400, 440).series(5), 0);
         due.is("of several the first one, above", fired(430, 370).series(5), 0);
         due.is("of several the first one, below", fired(370, 430).series(5), 0);
+        due.of("Its mean is the mean of their told speeds, rounded down; its spread the greatest less the least.");
         due.is("a mean that is rounded down", fired(400, 400, 401).series(1), 399);
         due.is("spread of one", fired(400).series(2), 0);
         due.is("spread, the least one last", fired(450, 410, 400).series(2), 50);
     }
 
     private static void seriesWithoutShots(Due due) {
+        due.of("2 for its spread (0 without shots)");
         CaughtPellets x = new CaughtPellets();
         int[] told = {0, -5, 0, 0, -5, -5, 0};
         for (int what = 0; what < told.length; what++) {
@@ -61,6 +69,7 @@ public final class SeriesTest {
     }
 
     private static void shotsOutsideTheSeries(Due due) {
+        due.of("A series is all shots that count and are not struck.");
         CaughtPellets x = new CaughtPellets();
         x.cord(0, 2100);
         Told.fireEach(x, 400, 401);
@@ -87,6 +96,8 @@ public final class SeriesTest {
     }
 
     private static void badShotsByTheLimit(Due due) {
+        due.of("A shot of the series is bad if its told speed differs from the mean by more than the limit (1 "
+            + "to 200; 30 at first).");
         CaughtPellets x = fired(400, 410, 300);
         due.is("30 from the mean", x.shot(0, 6), 0);
         due.is("40 from the mean", x.shot(1, 6), 1);
@@ -105,13 +116,17 @@ public final class SeriesTest {
     }
 
     private static void shotsAreStruck(Due due) {
+        due.of("- `struck`: whether it is struck then");
         CaughtPellets x = fired(400, 410, 300);
         due.is("strike(2, true)", x.strike(2, true), 2);
         due.is("it is struck", x.shot(2, 5), 1);
         due.is("its mean", x.series(1), 404);
         due.is("it keeps its told speed", x.shot(2, 4), 299);
+        due.of("Returns how many shots the series has then; UNKNOWN; NOT_POSSIBLE if it does not count; NONE "
+            + "if it is so already.");
         due.is("strike(0, true)", x.strike(0, true), 1);
         due.is("strike(2, false)", x.strike(2, false), 2);
+        due.of("`int strike(int shot, boolean struck)`: Strikes a shot, or takes that back. This is an act.");
         due.is("it is not struck", x.shot(2, 5), 0);
         due.is("its mean", x.series(1), 354);
         due.is("shots that do not count", x.count(8), 0);
@@ -120,6 +135,7 @@ public final class SeriesTest {
     }
 
     private static void strikeIsRefused(Due due) {
+        due.of("- `shot`: a shot that was fired");
         CaughtPellets x = new CaughtPellets();
         due.is("strike(0, true) of none", x.strike(0, true), -1);
         x.load(80, 400);
@@ -128,6 +144,7 @@ public final class SeriesTest {
         due.is("strike(-1, true)", x.strike(-1, true), -1);
         due.is("strike(2, true)", x.strike(2, true), -1);
         due.is("strike(MAX, true)", x.strike(Integer.MAX_VALUE, true), -1);
+        due.of("NOT_POSSIBLE if it does not count; NONE if it is so already.");
         due.is("it does not count", x.strike(1, true), -4);
         due.is("it does not count", x.strike(1, false), -4);
         due.is("so it is already", x.strike(0, false), -5);
@@ -138,6 +155,7 @@ public final class SeriesTest {
     }
 
     private static void seriesIsCleaned(Due due) {
+        due.of("Returns how many shots are struck by that; NONE if none is bad.");
         CaughtPellets x = new CaughtPellets();
         due.is("clean() of none", x.clean(), -5);
         Told.fireEach(x, 400, 430, 370);
@@ -145,6 +163,7 @@ public final class SeriesTest {
         Told.fireEach(x, 500);
         due.is("its mean", x.series(1), 424);
         due.is("clean()", x.clean(), 1);
+        due.of("`int clean()`: Cleans the series. This is an act.");
         due.is("the worst one is struck", x.shot(3, 5), 1);
         due.is("no other one", x.series(0), 3);
         due.is("clean() again", x.clean(), -5);
@@ -156,6 +175,7 @@ public final class SeriesTest {
     }
 
     private static void worstIsTheFirstOfSeveral(Due due) {
+        due.of("the worst one (the greatest difference, of several the first one) is struck");
         CaughtPellets x = fired(400, 470, 330);
         x.setLimit(60);
         due.is("clean()", x.clean(), 1);
@@ -169,6 +189,8 @@ public final class SeriesTest {
     }
 
     private static void cleaningReckonsAnew(Due due) {
+        due.of("To clean: as long as any is bad, the worst one (the greatest difference, of several the first "
+            + "one) is struck, and all is reckoned anew.");
         CaughtPellets x = fired(400, 402, 401, 340, 462);
         due.is("bad shots", x.series(3), 2);
         due.is("clean()", x.clean(), 2);
@@ -195,6 +217,7 @@ public final class SeriesTest {
     }
 
     private static void shotsAreForgotten(Due due) {
+        due.of("Returns how many they were; NONE if there is none.");
         CaughtPellets x = new CaughtPellets();
         due.is("forget() of none", x.forget(), -5);
         due.is("no act", x.count(19), 0);
@@ -204,6 +227,7 @@ public final class SeriesTest {
         x.fire(2, 3);
         x.strike(0, true);
         due.is("forget()", x.forget(), 2);
+        due.of("`int forget()`: Forgets all shots that were fired. This is an act.");
         due.is("shots that were fired", x.count(7), 0);
         due.is("those that do not count", x.count(8), 0);
         due.is("the series", x.series(0), 0);
@@ -225,13 +249,16 @@ public final class SeriesTest {
     }
 
     private static void limitIsSet(Due due) {
+        due.of("- `limit`: 1 to 200");
         CaughtPellets x = new CaughtPellets();
         due.is("setLimit(30)", x.setLimit(30), -5);
         due.is("setLimit(0)", x.setLimit(0), -2);
         due.is("setLimit(201)", x.setLimit(201), -2);
         due.is("setLimit(MIN)", x.setLimit(Integer.MIN_VALUE), -2);
         due.is("no act", x.count(19), 0);
+        due.of("`int setLimit(int limit)`: Sets the limit. This is an act.");
         due.is("setLimit(1)", x.setLimit(1), 30);
+        due.of("Returns the previous one; BAD_VALUE; NONE if it is so already.");
         due.is("setLimit(200)", x.setLimit(200), 1);
         due.is("count(14)", x.count(14), 200);
         due.is("setLimit(200)", x.setLimit(200), -5);

@@ -23,6 +23,7 @@ public final class ShotBoundsTest {
         test.restJustBelowTheLeastHeight();
         test.rootOfASquareAndJustBelowIt();
         test.toldSpeedIsRoundedDown();
+        test.toldSpeedIsFromTheFirstHeight();
         test.wouldTellsOnly();
         test.halfSwingsUntilRest();
         test.mostHalfSwingsUntilRest();
@@ -390,6 +391,23 @@ public final class ShotBoundsTest {
         heightAndTold(58, 644, 4428, 642);
         heightAndTold(66, 792, 8669, 790);
         heightAndTold(55, 663, 4222, 661);
+    }
+
+    private void toldSpeedIsFromTheFirstHeight() {
+        due.of("The speed that is told of a shot that counts is from the first height");
+        CaughtPellets x = new CaughtPellets();
+        x.load(80, 400);
+        due.is("fire(1, 5)", x.fire(1, 5), 1);
+        due.is("the height is less already", x.count(4), 2932);
+        due.is("the first height", x.shot(0, 3), 3246);
+        due.is("the told speed", x.shot(0, 4), 399);
+        x.swing(500);
+        x.digOut();
+        x.block(9000);
+        x.cord(0, 2005);
+        due.is("the first height stays", x.shot(0, 3), 3246);
+        due.is("the told speed stays", x.shot(0, 4), 399);
+        due.is("the block ahead of it stays", x.shot(0, 7), 40000);
     }
 
     private void wouldTellsOnly() {

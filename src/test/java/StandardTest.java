@@ -16,10 +16,12 @@ public final class StandardTest {
     }
 
     private static void standardsAreKept(Due due) {
+        due.of("Returns its number; BAD_VALUE; FULL if 5 are kept.");
         CaughtPellets x = new CaughtPellets();
         due.is("keepStandard(50, 0)", x.keepStandard(50, 0), 0);
         due.is("keepStandard(900, 100)", x.keepStandard(900, 100), 1);
         due.is("the same again", x.keepStandard(900, 100), 2);
+        due.of("`int keepStandard(int speed, int tolerance)`: Keeps a standard. This is an act.");
         due.is("count(13)", x.count(13), 3);
         due.is("standard(0, 0)", x.standard(0, 0), 50);
         due.is("standard(0, 1)", x.standard(0, 1), 0);
@@ -31,13 +33,16 @@ public final class StandardTest {
     }
 
     private static void keepStandardIsRefused(Due due) {
+        due.of("- `speed`: 50 to 900");
         CaughtPellets x = new CaughtPellets();
         due.is("keepStandard(49, 0)", x.keepStandard(49, 0), -2);
         due.is("keepStandard(901, 0)", x.keepStandard(901, 0), -2);
+        due.of("- `tolerance`: 0 to 100");
         due.is("keepStandard(50, -1)", x.keepStandard(50, -1), -2);
         due.is("keepStandard(50, 101)", x.keepStandard(50, 101), -2);
         due.is("keepStandard(MAX, MIN)", x.keepStandard(Integer.MAX_VALUE, Integer.MIN_VALUE), -2);
         due.same("nothing is changed", Told.everything(x), Told.everything(new CaughtPellets()));
+        due.of("A standard is a speed with a tolerance: at most 5 are kept, numbered from 0.");
         for (int i = 0; i < 5; i++) {
             due.is("keepStandard", x.keepStandard(100 + i, i), i);
         }
@@ -49,16 +54,20 @@ public final class StandardTest {
     }
 
     private static void standardsAreDropped(Due due) {
+        due.of("Returns how many are kept then; UNKNOWN.");
         CaughtPellets x = new CaughtPellets();
         due.is("dropStandard(0) of none", x.dropStandard(0), -1);
         for (int i = 0; i < 5; i++) {
             x.keepStandard(100 + i, 10 + i);
         }
+        due.of("- `standard`: a standard");
         due.is("dropStandard(5)", x.dropStandard(5), -1);
         due.is("dropStandard(-1)", x.dropStandard(-1), -1);
         due.is("dropStandard(MIN)", x.dropStandard(Integer.MIN_VALUE), -1);
         due.is("count(13)", x.count(13), 5);
         due.is("dropStandard(1)", x.dropStandard(1), 4);
+        due.of("`int dropStandard(int standard)`: Drops a standard; those behind it get numbers that are 1 "
+            + "less. This is an act.");
         int[] left = {0, 2, 3, 4};
         for (int i = 0; i < left.length; i++) {
             due.is("speed of " + i, x.standard(i, 0), 100 + left[i]);
@@ -82,6 +91,8 @@ public final class StandardTest {
     }
 
     private static void standardsAreMet(Due due) {
+        due.of("A series meets a standard if it has at least 3 shots, and its mean differs from the speed by "
+            + "at most the tolerance.");
         CaughtPellets x = threeWithMean399();
         int[][] standards = {{399, 0, 1}, {400, 0, 0}, {409, 10, 1}, {389, 10, 1}, {388, 10, 0}};
         int bits = 0;
@@ -98,6 +109,7 @@ public final class StandardTest {
     }
 
     private static void twoShotsAreTooFew(Due due) {
+        due.of("2 for whether the series meets it (1, otherwise 0)");
         CaughtPellets x = threeWithMean399();
         x.keepStandard(399, 100);
         due.is("series(6)", x.series(6), 1);
@@ -114,6 +126,8 @@ public final class StandardTest {
     }
 
     private static void shotsWithinOneByOne(Due due) {
+        due.of("- `what`: 0 for its speed, 1 for its tolerance, 2 for whether the series meets it (1, "
+            + "otherwise 0), 3 for how many shots of the series are within it one by one");
         CaughtPellets x = threeWithMean399();
         x.keepStandard(399, 5);
         x.keepStandard(399, 4);
@@ -134,6 +148,7 @@ public final class StandardTest {
     }
 
     private static void standardIsRefused(Due due) {
+        due.of("`int standard(int standard, int what)`: - `standard`: a standard");
         CaughtPellets x = new CaughtPellets();
         due.is("standard(0, 4) of none", x.standard(0, 4), -1);
         x.keepStandard(399, 5);

@@ -225,7 +225,7 @@ public final class TextBoundsTest {
     }
 
     private void textIsEmptied() {
-        due.of("the length that it had.");
+        due.of("Returns the length that it had.");
         CaughtPellets x = new CaughtPellets();
         due.is("of a new object", x.clearText(), 0);
         x.type('5');

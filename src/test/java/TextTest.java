@@ -25,22 +25,27 @@ public final class TextTest {
     }
 
     private static void charactersAreTyped(Due due) {
+        due.of("`int type(char character)`: Types a character behind the text.");
         CaughtPellets x = new CaughtPellets();
         due.is("clearText() of nothing", x.clearText(), 0);
         for (int i = 0; i < 60; i++) {
             due.is("type", x.type((char) (i * 1000)), i + 1);
         }
+        due.of("Returns the length of the text then; FULL if it has 60 characters.");
         due.is("one more", x.type('1'), -3);
         due.is("count(20)", x.count(20), 60);
+        due.of("`int clearText()`: Empties the text.");
         due.is("clearText()", x.clearText(), 60);
         due.is("clearText() again", x.clearText(), 0);
         due.is("count(20)", x.count(20), 0);
+        due.of("- `character`: any character");
         due.is("type", x.type('\uffff'), 1);
         due.is("type", x.type('\u0000'), 2);
         due.is("no act", x.count(19), 0);
     }
 
     private static void textIsNoState(Due due) {
+        due.of("A state is everything but the text, the history and the snapshot.");
         CaughtPellets x = new CaughtPellets();
         Told.write(x, "5@50");
         x.keep();
@@ -59,6 +64,8 @@ public final class TextTest {
     }
 
     private static void shotsOfTheTextAreLoaded(Due due) {
+        due.of("`int loadAll()`: Puts the shots of the text, which stays, behind the row; all of them, or "
+            + "none. This is one act.");
         CaughtPellets x = new CaughtPellets();
         x.load(2000, 900);
         Told.write(x, "5@50;7.5@420x3;200.0@900;199.9@51x2;1.0@52");
@@ -80,6 +87,8 @@ public final class TextTest {
     }
 
     private static void allOfThemOrNone(Due due) {
+        due.of("Returns how many shots the text has; -100 minus the fault of the text if it has one (which is "
+            + "an error); FULL if more than 20 would wait.");
         CaughtPellets x = new CaughtPellets();
         Told.write(x, "5@50x9;6@60x9;7@70x2");
         due.is("just 20", x.loadAll(), 20);
@@ -109,6 +118,9 @@ public final class TextTest {
     }
 
     private static void textsWithoutFault(Due due) {
+        due.of("A text of shots is one or more shots with \";\" between two: a mass in grams (1 to 200), perhaps "
+            + "\".\" and a digit (tenths; behind 200 only 0), \"@\" and a speed (50 to 900), and perhaps \"x\" and "
+            + "how many such shots (2 to 9).");
         int[] shots = {1, 1, 1, 9, 1, 2, 9, 1, 1};
         for (int i = 0; i < shots.length; i++) {
             CaughtPellets x = new CaughtPellets();
@@ -133,6 +145,7 @@ public final class TextTest {
     }
 
     private static void faultsOfMasses(Due due) {
+        due.of("Numbers have no zero in front; a digit by which a number would be greater than told is not allowed.");
         fault(due, "", 0);
         fault(due, "0@50", 0);
         fault(due, "0", 0);
@@ -171,6 +184,8 @@ public final class TextTest {
     }
 
     private static void faultsOfSpeeds(Due due) {
+        due.of("Where a number is less than told, the character behind it is not allowed (if there is none, "
+            + "the text ends too early;");
         fault(due, "5@", 2);
         fault(due, "5@0", 2);
         fault(due, "5@050", 2);
@@ -193,6 +208,7 @@ public final class TextTest {
     }
 
     private static void faultsOfTimes(Due due) {
+        due.of("so the fault of \"5@50x1\" is 6");
         fault(due, "5@50x", 5);
         fault(due, "5@50x0", 5);
         fault(due, "5@50x02", 5);
@@ -209,6 +225,8 @@ public final class TextTest {
     }
 
     private static void faultsBehindAShot(Due due) {
+        due.of("The fault of the text is the index, from 0, of the first character that is not allowed at its "
+            + "place, or the length of the text if it ends too early");
         fault(due, "5@50;", 5);
         fault(due, "5@50x2;", 7);
         fault(due, "5@50;;6@60", 5);
@@ -223,6 +241,7 @@ public final class TextTest {
 
     /** What stood behind a shorter text is not read. */
     private static void formerTextIsGone(Due due) {
+        due.of("Empties the text.");
         String former = "5.5@50x2;6@60";
         int[] faults = {0, 1, 2, 3, 4, 5, -1, 7, -1, 9, 10, 11, 12};
         for (int length = 0; length < faults.length; length++) {
@@ -235,6 +254,7 @@ public final class TextTest {
     }
 
     private static void otherCharacters(Due due) {
+        due.of("the first character that is not allowed at its place");
         fault(due, "5@50X2", 4);
         fault(due, "\u0665@50", 0);
         fault(due, "5@5\u0660", 3);
